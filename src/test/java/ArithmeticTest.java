@@ -23,16 +23,8 @@ public final class ArithmeticTest {
         CHECK.finish();
     }
 
-    private static ResidueUnit with(long... numbers) {
-        ResidueUnit unit = new ResidueUnit();
-        for (int r = 0; r < numbers.length; r++) {
-            unit.load(r, numbers[r]);
-        }
-        return unit;
-    }
-
     private static void workDue(int op, long target, long a, long b, long want) {
-        ResidueUnit unit = with(target, a, b);
+        ResidueUnit unit = Check.with(target, a, b);
         unit.work(op, 0, 1, 2);
         String what = "4: work " + op + " of " + target + ", " + a + ", " + b;
         CHECK.due(what, unit.binary(0), want);
@@ -56,7 +48,7 @@ public final class ArithmeticTest {
     }
 
     private static void workOnItself() {
-        ResidueUnit unit = with(7, -3);
+        ResidueUnit unit = Check.with(7, -3);
         unit.work(0, 0, 0, 0);
         CHECK.due("4: add to itself", unit.binary(0), 14L);
         unit.work(1, 0, 1, 0);
@@ -70,7 +62,7 @@ public final class ArithmeticTest {
 
     private static void workInEachChannel() {
         for (int op = 0; op <= 3; op++) {
-            ResidueUnit unit = with(H, -H + 1, H - 2);
+            ResidueUnit unit = Check.with(H, -H + 1, H - 2);
             unit.inject(0, 2, 17);
             unit.inject(1, 5, -40);
             unit.inject(2, 7, 200);
@@ -91,24 +83,24 @@ public final class ArithmeticTest {
 
     private static void workRefuses() {
         for (int wrong : NO_REGISTERS) {
-            ResidueUnit unit = with(1, 2, 3);
+            ResidueUnit unit = Check.with(1, 2, 3);
             CHECK.refused("4: work into " + wrong, unit, IndexOutOfBoundsException.class, () -> unit.work(0, wrong, 1, 2));
-            ResidueUnit second = with(1, 2, 3);
+            ResidueUnit second = Check.with(1, 2, 3);
             CHECK.refused("4: work on a " + wrong, second, IndexOutOfBoundsException.class, () -> second.work(1, 0, wrong, 2));
-            ResidueUnit third = with(1, 2, 3);
+            ResidueUnit third = Check.with(1, 2, 3);
             CHECK.refused("4: work on b " + wrong, third, IndexOutOfBoundsException.class, () -> third.work(2, 0, 1, wrong));
         }
         for (int op : new int[] {-1, 4, Integer.MAX_VALUE, Integer.MIN_VALUE}) {
-            ResidueUnit unit = with(1, 2, 3);
+            ResidueUnit unit = Check.with(1, 2, 3);
             CHECK.refused("4: op " + op, unit, IllegalArgumentException.class, () -> unit.work(op, 0, 1, 2));
-            ResidueUnit second = with(1, 2, 3);
+            ResidueUnit second = Check.with(1, 2, 3);
             CHECK.refused("4: op and register", second, IndexOutOfBoundsException.class, () -> second.work(op, 0, 1, 16));
         }
     }
 
     private static void compareValues() {
         long[] numbers = {-H, -H + 1, -257, -1, 0, 1, 256, H - 1, H};
-        ResidueUnit unit = with(numbers);
+        ResidueUnit unit = Check.with(numbers);
         for (int a = 0; a < numbers.length; a++) {
             for (int b = 0; b < numbers.length; b++) {
                 CHECK.due("5: compare " + numbers[a] + ", " + numbers[b], unit.compare(a, b), Integer.compare(a, b));
@@ -120,7 +112,7 @@ public final class ArithmeticTest {
 
     /** Channels 7 and 8 have no part in the value. */
     private static void comparesNoWitness() {
-        ResidueUnit unit = with(5, 5, 6);
+        ResidueUnit unit = Check.with(5, 5, 6);
         unit.inject(0, 7, 100);
         unit.inject(0, 8, 100);
         CHECK.due("5: compare, witnesses off", unit.compare(0, 1), 0);
@@ -130,15 +122,15 @@ public final class ArithmeticTest {
 
     private static void compareRefuses() {
         for (int wrong : NO_REGISTERS) {
-            ResidueUnit unit = with(1, 2, 3);
+            ResidueUnit unit = Check.with(1, 2, 3);
             CHECK.refused("5: compare a " + wrong, unit, IndexOutOfBoundsException.class, () -> unit.compare(wrong, 0));
-            ResidueUnit second = with(1, 2, 3);
+            ResidueUnit second = Check.with(1, 2, 3);
             CHECK.refused("5: compare b " + wrong, second, IndexOutOfBoundsException.class, () -> second.compare(0, wrong));
         }
     }
 
     private static void scaleDue(long number, int moduli, boolean nearest, long want) {
-        ResidueUnit unit = with(77, number);
+        ResidueUnit unit = Check.with(77, number);
         unit.scale(0, 1, moduli, nearest);
         String what = "6: scale of " + number + " by " + moduli + (nearest ? ", nearest" : ", down");
         CHECK.due(what, unit.binary(0), want);
@@ -187,7 +179,7 @@ public final class ArithmeticTest {
     }
 
     private static void scaleLeavesTheSource() {
-        ResidueUnit unit = with(77, 10000);
+        ResidueUnit unit = Check.with(77, 10000);
         unit.scale(0, 1, 1, false);
         CHECK.due("6: the source stays", unit.binary(1), 10000L);
         unit.scale(1, 1, 1, false);
@@ -196,7 +188,7 @@ public final class ArithmeticTest {
     }
 
     private static void scaleOfFaultyAndUnsure() {
-        ResidueUnit unit = with(77, 10000, H);
+        ResidueUnit unit = Check.with(77, 10000, H);
         unit.inject(1, 8, 3);
         unit.scale(0, 1, 1, false);
         CHECK.due("6: what is scaled is the value", unit.binary(0), 39L);
@@ -210,19 +202,19 @@ public final class ArithmeticTest {
 
     private static void scaleRefuses() {
         for (int wrong : NO_REGISTERS) {
-            ResidueUnit unit = with(1, 2, 3);
+            ResidueUnit unit = Check.with(1, 2, 3);
             CHECK.refused("6: scale into " + wrong, unit, IndexOutOfBoundsException.class, () -> unit.scale(wrong, 0, 1, false));
-            ResidueUnit second = with(1, 2, 3);
+            ResidueUnit second = Check.with(1, 2, 3);
             CHECK.refused("6: scale of " + wrong, second, IndexOutOfBoundsException.class, () -> second.scale(0, wrong, 0, true));
         }
         for (int moduli : new int[] {0, 31, 47, 62, 63, 64, 65, 128, 256, -1, -63, Integer.MIN_VALUE, Integer.MIN_VALUE + 1}) {
-            ResidueUnit unit = with(1, 2, 3);
+            ResidueUnit unit = Check.with(1, 2, 3);
             CHECK.refused("6: moduli " + moduli, unit, IllegalArgumentException.class, () -> unit.scale(0, 1, moduli, false));
         }
     }
 
     private static void divideDue(long a, long b) {
-        ResidueUnit unit = with(77, 77, a, b);
+        ResidueUnit unit = Check.with(77, 77, a, b);
         unit.divide(0, 1, 2, 3);
         String what = "7: divide " + a + " by " + b;
         CHECK.due(what + ", quotient", unit.binary(0), a / b);
@@ -244,18 +236,18 @@ public final class ArithmeticTest {
     }
 
     private static void divideSharedRegisters() {
-        ResidueUnit unit = with(-100, 7);
+        ResidueUnit unit = Check.with(-100, 7);
         unit.divide(0, 1, 0, 1);
         CHECK.due("7: quotient over the dividend", unit.binary(0), -14L);
         CHECK.due("7: remainder over the divisor", unit.binary(1), -2L);
-        unit = with(-100, 7);
+        unit = Check.with(-100, 7);
         unit.divide(1, 0, 0, 1);
         CHECK.due("7: quotient over the divisor", unit.binary(1), -14L);
         CHECK.due("7: remainder over the dividend", unit.binary(0), -2L);
-        unit = with(-100, 7);
+        unit = Check.with(-100, 7);
         unit.divide(2, 2, 0, 1);
         CHECK.due("7: the remainder goes last", unit.binary(2), -2L);
-        unit = with(-100, 7);
+        unit = Check.with(-100, 7);
         unit.inject(1, 7, 9);
         unit.divide(2, 3, 0, 1);
         CHECK.due("7: what divides is the value", unit.binary(2), -14L);
@@ -263,21 +255,21 @@ public final class ArithmeticTest {
 
     private static void divideRefuses() {
         for (int wrong : NO_REGISTERS) {
-            ResidueUnit unit = with(1, 2, 3);
+            ResidueUnit unit = Check.with(1, 2, 3);
             CHECK.refused("7: q " + wrong, unit, IndexOutOfBoundsException.class, () -> unit.divide(wrong, 1, 1, 2));
-            ResidueUnit second = with(1, 2, 3);
+            ResidueUnit second = Check.with(1, 2, 3);
             CHECK.refused("7: r " + wrong, second, IndexOutOfBoundsException.class, () -> second.divide(0, wrong, 1, 9));
-            ResidueUnit third = with(1, 2, 3);
+            ResidueUnit third = Check.with(1, 2, 3);
             CHECK.refused("7: a " + wrong, third, IndexOutOfBoundsException.class, () -> third.divide(0, 1, wrong, 9));
-            ResidueUnit fourth = with(1, 2, 3);
+            ResidueUnit fourth = Check.with(1, 2, 3);
             CHECK.refused("7: b " + wrong, fourth, IndexOutOfBoundsException.class, () -> fourth.divide(0, 1, 1, wrong));
         }
-        ResidueUnit unit = with(1, 2, 0);
+        ResidueUnit unit = Check.with(1, 2, 0);
         CHECK.refused("7: by 0", unit, ArithmeticException.class, () -> unit.divide(0, 1, 1, 2));
-        ResidueUnit faulty = with(1, 2, 0);
+        ResidueUnit faulty = Check.with(1, 2, 0);
         faulty.inject(2, 7, 9);
         CHECK.refused("7: by the value 0", faulty, ArithmeticException.class, () -> faulty.divide(0, 1, 1, 2));
-        ResidueUnit other = with(1, 2, 0);
+        ResidueUnit other = Check.with(1, 2, 0);
         other.inject(2, 6, 9);
         other.divide(0, 1, 1, 2);
         CHECK.due("7: by a residue that is not 0", other.binary(0), 0L);

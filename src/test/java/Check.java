@@ -5,6 +5,15 @@ final class Check {
     private int asDue = 0;
     private int wrong = 0;
 
+    /** A new object with the numbers in its first registers. */
+    static ResidueUnit with(long... numbers) {
+        ResidueUnit unit = new ResidueUnit();
+        for (int r = 0; r < numbers.length; r++) {
+            unit.load(r, numbers[r]);
+        }
+        return unit;
+    }
+
     void due(String what, Object got, Object want) {
         if (Objects.equals(got, want)) {
             asDue++;

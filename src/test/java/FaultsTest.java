@@ -12,6 +12,7 @@ public final class FaultsTest {
         injectRefuses();
         everyFaultOfOneChannel();
         severalFaults();
+        twoFaultsThatLookLikeOne();
         goodAfterManyFaults();
         verifyRefuses();
         repairRefuses();
@@ -105,6 +106,25 @@ public final class FaultsTest {
         wrapped.work(0, 2, 2, 3);
         CHECK.due("10: a sum out of range", wrapped.verify(2), 9);
         CHECK.refused("11: a sum out of range", wrapped, IllegalStateException.class, () -> wrapped.repair(2));
+    }
+
+    /** A number that differs from 0 in channels i, j and 7 alone; with two of those at 0 the third is the fault. */
+    private static void twoFaultsThatLookLikeOne() {
+        for (int i = 1; i <= 6; i++) {
+            for (int j = 1; j <= 6; j++) {
+                if (i == j) {
+                    continue;
+                }
+                long number = 255 * (175107974924611L / MODULI[i - 1] / MODULI[j - 1]);
+                ResidueUnit unit = with(number);
+                unit.inject(2, i, -unit.channel(2, i));
+                unit.inject(2, 7, -unit.channel(2, 7));
+                CHECK.due("10: two faults of three, left " + j, unit.verify(2), j);
+                CHECK.due("11: two faults of three, left " + j, unit.repair(2), j);
+                CHECK.due("11: it is 0 now", unit.binary(2), 0L);
+                CHECK.due("13: the interval is of what was put", unit.bound(2, 0), number);
+            }
+        }
     }
 
     private static void goodAfterManyFaults() {

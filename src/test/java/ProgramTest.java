@@ -22,14 +22,6 @@ public final class ProgramTest {
         CHECK.finish();
     }
 
-    private static ResidueUnit with(long... numbers) {
-        ResidueUnit unit = new ResidueUnit();
-        for (int r = 0; r < numbers.length; r++) {
-            unit.load(r, numbers[r]);
-        }
-        return unit;
-    }
-
     private static void runDue(String what, ResidueUnit unit, int fuel, int done, int why) {
         CHECK.due("15: " + what + ", run", unit.run(fuel), done);
         CHECK.due("16: " + what + ", stopped", unit.stopped(), why);
@@ -104,7 +96,7 @@ public final class ProgramTest {
     }
 
     private static void refused(int i, int kind, int a, int b, int c) {
-        ResidueUnit unit = with(1, 2);
+        ResidueUnit unit = Check.with(1, 2);
         unit.instruct(i, 11, 3, -77, 0);
         String what = "14: instruct kind " + kind + " with " + a + ", " + b + ", " + c;
         CHECK.refused(what, unit, IllegalArgumentException.class, () -> unit.instruct(i, kind, a, b, c));
@@ -113,9 +105,9 @@ public final class ProgramTest {
     }
 
     private static void noSuchInstruction(int i) {
-        ResidueUnit unit = with(1, 2);
+        ResidueUnit unit = Check.with(1, 2);
         CHECK.refused("14: instruct " + i, unit, IndexOutOfBoundsException.class, () -> unit.instruct(i, 0, 0, 0, 0));
-        ResidueUnit second = with(1, 2);
+        ResidueUnit second = Check.with(1, 2);
         CHECK.refused("14: instruct " + i + " and kind", second, IndexOutOfBoundsException.class, () -> second.instruct(i, 12, 0, 0, 0));
     }
 
@@ -123,7 +115,7 @@ public final class ProgramTest {
         long[] want = {100 - 7, 100 + 7, -700, 5 - 700};
         int[] kinds = {1, 2, 3, 4};
         for (int n = 0; n < kinds.length; n++) {
-            ResidueUnit unit = with(5, 100, -7);
+            ResidueUnit unit = Check.with(5, 100, -7);
             unit.instruct(0, kinds[n], 0, 1, 2);
             runDue("kind " + kinds[n], unit, 2000, 2, 1);
             CHECK.due("15: kind " + kinds[n], unit.binary(0), want[n]);
@@ -131,7 +123,7 @@ public final class ProgramTest {
             CHECK.due("15: kind " + kinds[n] + " leaves b", unit.binary(1), 100L);
             CHECK.due("15: kind " + kinds[n] + " leaves c", unit.binary(2), -7L);
         }
-        ResidueUnit unit = with(H, 1);
+        ResidueUnit unit = Check.with(H, 1);
         unit.instruct(0, 1, 2, 0, 1);
         unit.instruct(1, 11, 3, -128, 0);
         unit.instruct(2, 11, 4, 127, 0);
@@ -142,7 +134,7 @@ public final class ProgramTest {
     }
 
     private static void scaling() {
-        ResidueUnit unit = with(9, -252, H);
+        ResidueUnit unit = Check.with(9, -252, H);
         unit.work(0, 3, 2, 2);
         unit.instruct(0, 5, 0, 1, 1);
         unit.instruct(1, 5, 3, 3, 15);
@@ -153,7 +145,7 @@ public final class ProgramTest {
     }
 
     private static void copying() {
-        ResidueUnit unit = with(9, -252, H);
+        ResidueUnit unit = Check.with(9, -252, H);
         unit.inject(1, 8, 3);
         unit.work(0, 2, 2, 2);
         unit.instruct(0, 6, 0, 1, 0);
@@ -173,7 +165,7 @@ public final class ProgramTest {
 
     private static void jumps() {
         for (long number : new long[] {-H, -1, 0, 1, H}) {
-            ResidueUnit unit = with(number);
+            ResidueUnit unit = Check.with(number);
             unit.instruct(0, 8, 0, 4, 0);
             unit.instruct(1, 11, 1, 1, 0);
             unit.instruct(2, 7, 5, 0, 0);
@@ -181,7 +173,7 @@ public final class ProgramTest {
             runDue("jump for " + number, unit, 2000, number < 0 ? 3 : 4, 1);
             CHECK.due("15: jump for " + number, unit.binary(1), number < 0 ? 2L : 1L);
         }
-        ResidueUnit unit = with(-1);
+        ResidueUnit unit = Check.with(-1);
         unit.inject(0, 7, 1);
         unit.inject(0, 8, 1);
         unit.instruct(0, 8, 0, 4, 0);
@@ -191,14 +183,16 @@ public final class ProgramTest {
 
     private static void counting() {
         for (int times : new int[] {1, 2, 10, 500}) {
-            ResidueUnit unit = with(0, 1);
+            ResidueUnit unit = Check.with(0, 1);
             unit.instruct(0, 9, times, 0, 0);
             unit.instruct(1, 1, 0, 0, 1);
             unit.instruct(2, 10, 1, 0, 0);
-            runDue(times + " times", unit, 2000, 2 * times + 2, 1);
+            unit.instruct(3, 11, 2, 5, 0);
+            runDue(times + " times", unit, 2000, 2 * times + 3, 1);
             CHECK.due("15: " + times + " times", unit.binary(0), (long) times);
+            CHECK.due("15: " + times + " times, then the next one", unit.binary(2), 5L);
         }
-        ResidueUnit unit = with(0, 1);
+        ResidueUnit unit = Check.with(0, 1);
         unit.instruct(0, 9, 1000, 0, 0);
         unit.instruct(1, 10, 1, 0, 0);
         runDue("1000 times", unit, 2000, 1002, 1);
@@ -209,11 +203,10 @@ public final class ProgramTest {
         unit.instruct(0, 10, 0, 0, 0);
         runDue("a counter below 0 goes on", unit, 2000, 2000, 3);
         unit.instruct(0, 9, 1, 0, 0);
-        runDue("the counter is set", unit, 1, 1, 3);
+        runDue("the counter is set to 1", unit, 1, 1, 3);
         unit.instruct(0, 10, 31, 0, 0);
-        runDue("the counter is 0 first", unit, 2000, 2, 1);
         unit.instruct(31, 6, 0, 0, 0);
-        runDue("the counter was 0", unit, 2000, 2, 2);
+        runDue("the counter is 0 first, not 1", unit, 2000, 2, 2);
     }
 
     private static void ends() {
@@ -252,7 +245,7 @@ public final class ProgramTest {
     }
 
     private static void stateStaysBetweenRuns() {
-        ResidueUnit unit = with(0, 1);
+        ResidueUnit unit = Check.with(0, 1);
         unit.instruct(0, 1, 0, 0, 1);
         runDue("first", unit, 9, 2, 1);
         runDue("second", unit, 9, 2, 1);
@@ -263,12 +256,12 @@ public final class ProgramTest {
 
     private static void runRefuses() {
         for (int fuel : new int[] {-1, 2001, MANY, FEW}) {
-            ResidueUnit unit = with(1, 2);
+            ResidueUnit unit = Check.with(1, 2);
             unit.instruct(0, 1, 0, 0, 1);
             CHECK.refused("15: run with " + fuel, unit, IllegalArgumentException.class, () -> unit.run(fuel));
             CHECK.due("16: there was no run", unit.stopped(), 0);
         }
-        ResidueUnit unit = with(1, 2);
+        ResidueUnit unit = Check.with(1, 2);
         unit.run(1);
         CHECK.refused("15: run after a run", unit, IllegalArgumentException.class, () -> unit.run(2001));
     }

@@ -13,16 +13,8 @@ public final class TrustTest {
         CHECK.finish();
     }
 
-    private static ResidueUnit with(long... numbers) {
-        ResidueUnit unit = new ResidueUnit();
-        for (int r = 0; r < numbers.length; r++) {
-            unit.load(r, numbers[r]);
-        }
-        return unit;
-    }
-
     private static void sureDue(int op, long target, long a, long b, long want) {
-        ResidueUnit unit = with(target, a, b);
+        ResidueUnit unit = Check.with(target, a, b);
         unit.work(op, 0, 1, 2);
         String what = "work " + op + " of " + target + ", " + a + ", " + b;
         CHECK.due("12: " + what, unit.sure(0), true);
@@ -31,7 +23,7 @@ public final class TrustTest {
     }
 
     private static void unsureDue(int op, long target, long a, long b) {
-        ResidueUnit unit = with(target, a, b);
+        ResidueUnit unit = Check.with(target, a, b);
         unit.work(op, 0, 1, 2);
         String what = "work " + op + " of " + target + ", " + a + ", " + b;
         CHECK.due("12: " + what, unit.sure(0), false);
@@ -77,7 +69,7 @@ public final class TrustTest {
 
     private static void unsureOperands() {
         for (int op = 0; op <= 3; op++) {
-            ResidueUnit unit = with(H, 1, 0);
+            ResidueUnit unit = Check.with(H, 1, 0);
             unit.work(0, 5, 0, 1);
             unit.work(op, 6, 5, 2);
             CHECK.due("12: op " + op + ", a is not sure", unit.sure(6), false);
@@ -86,7 +78,7 @@ public final class TrustTest {
             unit.work(op, 5, 1, 2);
             CHECK.due("12: op " + op + ", the target was not sure", unit.sure(5), op != 3);
         }
-        ResidueUnit unit = with(H, 1);
+        ResidueUnit unit = Check.with(H, 1);
         unit.work(0, 5, 0, 1);
         unit.work(1, 5, 5, 1);
         CHECK.due("12: back in range", unit.sure(5), false);
@@ -96,7 +88,7 @@ public final class TrustTest {
     }
 
     private static void intervalsOutliveFaults() {
-        ResidueUnit unit = with(6, 7);
+        ResidueUnit unit = Check.with(6, 7);
         unit.inject(0, 3, 100);
         unit.work(2, 2, 0, 1);
         CHECK.due("12: product of a faulty register", unit.sure(2), true);
@@ -108,17 +100,17 @@ public final class TrustTest {
 
     private static void refuses() {
         for (int wrong : NO_REGISTERS) {
-            ResidueUnit unit = with(1, 2);
+            ResidueUnit unit = Check.with(1, 2);
             CHECK.refused("12: register " + wrong, unit, IndexOutOfBoundsException.class, () -> unit.sure(wrong));
-            ResidueUnit second = with(1, 2);
+            ResidueUnit second = Check.with(1, 2);
             CHECK.refused("13: register " + wrong, second, IndexOutOfBoundsException.class, () -> second.bound(wrong, 0));
-            ResidueUnit third = with(1, 2);
+            ResidueUnit third = Check.with(1, 2);
             CHECK.refused("13: register before end", third, IndexOutOfBoundsException.class, () -> third.bound(wrong, 2));
         }
         for (int end : new int[] {-1, 2, Integer.MAX_VALUE, Integer.MIN_VALUE}) {
-            ResidueUnit unit = with(H, H);
+            ResidueUnit unit = Check.with(H, H);
             CHECK.refused("13: end " + end, unit, IllegalArgumentException.class, () -> unit.bound(0, end));
-            ResidueUnit second = with(H, H);
+            ResidueUnit second = Check.with(H, H);
             second.work(0, 0, 0, 1);
             CHECK.refused("13: end before sure", second, IllegalArgumentException.class, () -> second.bound(0, end));
         }
